@@ -973,7 +973,7 @@ public final class PuppetCast {
 
         void add(int who, int giver, int act, int a, long value) {
             int start = size * CELLS;
-            if (isBelow(size, MOST_MARKS) && isBelow(start + CELLS - 1, cells.length)) {
+            if (isBelow(size, MOST_MARKS)) {
                 cells[start] = who;
                 cells[start + 1] = giver;
                 cells[start + 2] = act;
@@ -984,11 +984,7 @@ public final class PuppetCast {
         }
 
         long cell(int i, int what) {
-            if (!isBelow(i, size) || !isBelow(what, CELLS)) {
-                return 0;
-            }
-            int at = i * CELLS + what;
-            return isBelow(at, cells.length) ? cells[at] : 0;
+            return isBelow(i, size) && isBelow(what, CELLS) ? cells[i * CELLS + what] : 0;
         }
     }
 
@@ -1001,6 +997,7 @@ public final class PuppetCast {
         private final Company company;
         final Tape tape = new Tape();
         private int failure;
+        /** By which number, the latest time that something was thrown. */
         private int thrown;
         private int opsDone;
         private int mostOpen;
@@ -1013,7 +1010,6 @@ public final class PuppetCast {
         int perform(Figure who, int act, long value) {
             tape.size = 0;
             failure = WENT_WELL;
-            thrown = 0;
             opsDone = 0;
             mostOpen = 1;
             long end = callAct(who, who, act, value, 1);
@@ -1150,9 +1146,12 @@ public final class PuppetCast {
                     return cued == null ? fail(ABSENT) : callAct(cued, who, part.secondAt(i), value, opened);
                 case OP_WITHIN:
                     return goWithin(who, act, place + 1, value, opened);
+                case OP_BY:
+                    Part named = company.bodyBy(who, a, act);
+                    return named == null ? fail(ABSENT) : doOps(named, who, act, place, value, opened);
                 default:
-                    Part other = part.kindAt(i) == OP_BY ? company.bodyBy(who, a, act) : partAbove(part, who, act);
-                    return other == null ? fail(ABSENT) : doOps(other, who, act, place, value, opened);
+                    Part higher = partAbove(part, who, act);
+                    return higher == null ? fail(ABSENT) : doOps(higher, who, act, place, value, opened);
             }
         }
 

@@ -86,6 +86,14 @@ public final class ChoiceTest {
         due("14 i MAX", x.line(0, MAX), NONE);
         due("14 character 1", x.line(1, 0), BAD);
         due("14 character MIN", x.line(MIN, 0), BAD);
+        PuppetCast y = new PuppetCast();
+        for (int t = 0; t < 20; t++) {
+            y.trait(t - 1, NONE, NONE);
+        }
+        y.character(0);
+        y.takes(0, 19);
+        due("14 the longest line", y.line(0, 19), 0);
+        due("14 behind the longest line", y.line(0, 20), NONE);
     }
 
     private static void promise15() {
@@ -238,6 +246,9 @@ public final class ChoiceTest {
         due("17 its own result is none", x.about(0, 0, 3), 2);
         x.guard(3, 0, 0);
         due("17 guards", x.about(0, 0, 4), 2);
+        x.guard(4, 0, 0);
+        due("17 guards of all sorts", x.about(0, 0, 4), 3);
+        due("17 guards of another act", x.about(0, 1, 4), 0);
         x.own(0, 0, 1, 2);
         due("17 own result", x.about(0, 0, 0), 2);
         due("17 own reach", x.about(0, 0, 1), 1);
@@ -371,6 +382,10 @@ public final class ChoiceTest {
         x.own(1, 5, 0, 0);
         due("27 one less is missing, but it clashes", x.count(5), 1);
         due("27 one more clashes", x.count(4), 4);
+        x.need(0, 0, 0);
+        x.need(1, 0, 0);
+        due("27 the first act is missing, too", x.count(5), 3);
+        due("27 and does not clash", x.count(4), 3);
         due("27 6", x.count(6), BAD);
         due("27 -1", x.count(-1), BAD);
         due("27 MIN", x.count(MIN), BAD);
