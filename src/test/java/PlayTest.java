@@ -57,25 +57,8 @@ public final class PlayTest {
         }
     }
 
-    private static void ops(PuppetCast x, int... kindsAndNumbers) {
-        for (int i = 0; i + 2 < kindsAndNumbers.length; i += 3) {
-            x.op(kindsAndNumbers[i], kindsAndNumbers[i + 1], kindsAndNumbers[i + 2]);
-        }
-    }
-
-    /** A character 0, of troupe 0, that takes the last of some traits, each of which stands under the one before. */
-    private static PuppetCast chain(int traits) {
-        PuppetCast x = new PuppetCast();
-        for (int t = 0; t < traits; t++) {
-            x.trait(t - 1, NONE, NONE);
-        }
-        x.character(0);
-        x.takes(0, traits - 1);
-        return x;
-    }
-
     private static void promise21() {
-        PuppetCast x = chain(2);
+        PuppetCast x = Scenes.chain(2);
         due("21 character 1", x.play(1, 0, 0), BAD);
         due("21 character -1", x.play(-1, 0, 0), BAD);
         due("21 act 12", x.play(0, 12, 0), BAD);
@@ -94,52 +77,52 @@ public final class PlayTest {
     }
 
     private static void plainOps() {
-        PuppetCast x = chain(1);
+        PuppetCast x = Scenes.chain(1);
         x.setMood(0, 1, Long.MAX_VALUE);
         x.body(0, 0, 0, 0);
-        ops(x, PLUS, 3, 0, PUT, 0, 0, TAKE, 1, 0, PLUS, 2, 0, MARK, 5, 0, SUM, 0, 0);
+        Scenes.ops(x, PLUS, 3, 0, PUT, 0, 0, TAKE, 1, 0, PLUS, 2, 0, MARK, 5, 0, SUM, 0, 0);
         duePlay("ops", x, 0, 10, Long.MIN_VALUE + 1 + 13);
         dueMarks("ops", x, 5, Long.MIN_VALUE + 1);
         due("ops PUT", x.mood(0, 0), 13);
         due("ops TAKE leaves the mood", x.mood(0, 1), Long.MAX_VALUE);
         due("ops done", x.told(2), 6);
         x.body(0, 1, 0, 0);
-        ops(x, PLUS, Integer.MIN_VALUE, 0, WITHIN, 0, 0);
+        Scenes.ops(x, PLUS, Integer.MIN_VALUE, 0, WITHIN, 0, 0);
         duePlay("ops PLUS a negative number, WITHIN in a body", x, 1, 0, Integer.MIN_VALUE);
         due("ops WITHIN in a body opens none", x.told(3), 1);
         due("ops but it is done", x.told(2), 2);
     }
 
     private static void opIf() {
-        PuppetCast x = chain(1);
+        PuppetCast x = Scenes.chain(1);
         x.body(0, 0, 0, 0);
-        ops(x, IF, 0, 0, PLUS, 10, 0, PLUS, 100, 0);
+        Scenes.ops(x, IF, 0, 0, PLUS, 10, 0, PLUS, 100, 0);
         duePlay("IF at 1", x, 0, 1, 111);
         due("IF at 1, ops", x.told(2), 3);
         duePlay("IF at 0", x, 0, 0, 100);
         due("IF at 0, the one passed over is not done", x.told(2), 2);
         duePlay("IF at -1", x, 0, -1, 99);
         x.body(0, 1, 0, 0);
-        ops(x, IF, 0, 0, IF, 0, 0, PLUS, 5, 0, IF, 0, 0);
+        Scenes.ops(x, IF, 0, 0, IF, 0, 0, PLUS, 5, 0, IF, 0, 0);
         duePlay("IF passes over an IF", x, 1, -10, -5);
         due("IF passes over an IF, ops", x.told(2), 3);
     }
 
     private static void opAct() {
-        PuppetCast x = chain(1);
+        PuppetCast x = Scenes.chain(1);
         x.body(0, 0, 0, 0);
-        ops(x, PLUS, 1, 0, ACT, 1, 0, PLUS, 1, 0);
+        Scenes.ops(x, PLUS, 1, 0, ACT, 1, 0, PLUS, 1, 0);
         x.body(0, 1, 2, 0);
-        ops(x, SUM, 0, 0, MARK, 4, 0);
+        Scenes.ops(x, SUM, 0, 0, MARK, 4, 0);
         x.setMood(0, 0, 50);
         duePlay("ACT, of any reach", x, 0, 1, 53);
         due("ACT opens", x.told(3), 2);
         due("ACT marks with the act called", x.mark(0, 2), 1);
         x.guard(0, 1, AFTER);
-        ops(x, PLUS, 1000, 0);
+        Scenes.ops(x, PLUS, 1000, 0);
         duePlay("ACT passes the guards", x, 0, 1, 1053);
         x.body(0, 2, 0, 0);
-        ops(x, PUT, 3, 0, ACT, 3, 0, PUT, 2, 0);
+        Scenes.ops(x, PUT, 3, 0, ACT, 3, 0, PUT, 2, 0);
         dueFailure("ACT of nothing", x, 2, 9, GONE);
         due("ACT failed, what was done stays", x.mood(0, 3), 9);
         due("ACT failed, what comes behind it is not done", x.mood(0, 2), 0);
@@ -148,14 +131,14 @@ public final class PlayTest {
     }
 
     private static void opAbove() {
-        PuppetCast x = chain(4);
+        PuppetCast x = Scenes.chain(4);
         x.body(3, 0, 0, 0);
-        ops(x, MARK, 3, 0, ABOVE, 0, 0, PLUS, 1, 0);
+        Scenes.ops(x, MARK, 3, 0, ABOVE, 0, 0, PLUS, 1, 0);
         x.need(2, 0, 0);
         x.body(1, 0, 0, 0);
-        ops(x, MARK, 1, 0, ABOVE, 0, 0, PLUS, 10, 0);
+        Scenes.ops(x, MARK, 1, 0, ABOVE, 0, 0, PLUS, 10, 0);
         x.body(0, 0, 0, 0);
-        ops(x, MARK, 0, 0, PLUS, 100, 0);
+        Scenes.ops(x, MARK, 0, 0, PLUS, 100, 0);
         duePlay("ABOVE", x, 0, 5, 116);
         dueMarks("ABOVE", x, 3, 5, 1, 5, 0, 5);
         due("ABOVE, giver 0", x.mark(0, 1), 3);
@@ -163,23 +146,23 @@ public final class PlayTest {
         due("ABOVE, giver 2", x.mark(2, 1), 0);
         due("ABOVE opens", x.told(3), 3);
         x.own(0, 0, 0, 0);
-        ops(x, MARK, 9, 0, ABOVE, 0, 0);
+        Scenes.ops(x, MARK, 9, 0, ABOVE, 0, 0);
         duePlay("ABOVE its own", x, 0, 5, 116);
         due("ABOVE its own, giver", x.mark(0, 1), NONE);
         x.body(0, 0, 0, 0);
-        ops(x, ABOVE, 0, 0);
+        Scenes.ops(x, ABOVE, 0, 0);
         dueFailure("ABOVE the last", x, 0, 5, GONE);
         due("ABOVE the last, open", x.told(3), 5);
         x.guard(0, 0, BEFORE);
-        ops(x, MARK, 77, 0);
+        Scenes.ops(x, MARK, 77, 0);
         x.body(0, 0, 0, 0);
         duePlay("ABOVE does not pass guards again", x, 0, 5, 16);
         due("ABOVE does not pass guards again, marks", x.marks(), 4);
-        PuppetCast y = chain(2);
+        PuppetCast y = Scenes.chain(2);
         y.body(0, 5, 0, 0);
-        ops(y, MARK, 1, 0);
+        Scenes.ops(y, MARK, 1, 0);
         y.body(1, 0, 0, 0);
-        ops(y, ABOVE, 0, 0);
+        Scenes.ops(y, ABOVE, 0, 0);
         y.rename(0, 0, 5, 0);
         duePlay("ABOVE what is renamed", y, 0, 5, 5);
         due("ABOVE what is renamed: the act called", y.mark(0, 2), 0);
@@ -188,15 +171,15 @@ public final class PlayTest {
     /** By the words of the document a guard goes on with the ops of what is chosen. */
     private static void opAboveInGuards() {
         for (int sort = 0; sort < 3; sort++) {
-            PuppetCast x = chain(3);
+            PuppetCast x = Scenes.chain(3);
             x.guard(2, 0, sort);
-            ops(x, ABOVE, 0, 0);
+            Scenes.ops(x, ABOVE, 0, 0);
             x.guard(1, 0, BEFORE);
-            ops(x, MARK, 8, 0);
+            Scenes.ops(x, MARK, 8, 0);
             x.body(1, 0, 0, 0);
-            ops(x, PLUS, 1, 0, ABOVE, 0, 0);
+            Scenes.ops(x, PLUS, 1, 0, ABOVE, 0, 0);
             x.body(0, 0, 0, 0);
-            ops(x, PLUS, 10, 0);
+            Scenes.ops(x, PLUS, 10, 0);
             duePlay("ABOVE in a guard of sort " + sort, x, 0, 0, sort == INSTEAD ? 11 : 22);
             due("ABOVE in a guard passes other guards by", x.marks(), sort == INSTEAD ? 0 : 1);
             due("ABOVE in a guard opens", x.told(3), 3);
@@ -204,14 +187,14 @@ public final class PlayTest {
     }
 
     private static void opBy() {
-        PuppetCast x = chain(3);
+        PuppetCast x = Scenes.chain(3);
         x.trait(NONE, NONE, NONE);
         x.body(2, 0, 0, 0);
-        ops(x, BY, 0, 0, PLUS, 1, 0);
+        Scenes.ops(x, BY, 0, 0, PLUS, 1, 0);
         x.body(1, 0, 0, 0);
-        ops(x, PLUS, 10, 0);
+        Scenes.ops(x, PLUS, 10, 0);
         x.body(0, 0, 0, 0);
-        ops(x, PLUS, 100, 0, MARK, 1, 0);
+        Scenes.ops(x, PLUS, 100, 0, MARK, 1, 0);
         x.body(3, 0, 0, 0);
         duePlay("BY", x, 0, 0, 101);
         due("BY, giver", x.mark(0, 1), 0);
@@ -223,30 +206,30 @@ public final class PlayTest {
         x.leave(0, 0, 0);
         dueFailure("BY one that offers none", x, 0, 0, GONE);
         x.body(2, 0, 0, 0);
-        ops(x, BY, 3, 0);
+        Scenes.ops(x, BY, 3, 0);
         dueFailure("BY one that is not in the line", x, 0, 0, GONE);
         x.body(2, 0, 0, 0);
-        ops(x, BY, 19, 0);
+        Scenes.ops(x, BY, 19, 0);
         dueFailure("BY one that there is not", x, 0, 0, GONE);
         x.guard(2, 0, INSTEAD);
-        ops(x, BY, 1, 0);
+        Scenes.ops(x, BY, 1, 0);
         duePlay("BY in a guard", x, 0, 0, 10);
         x.own(0, 0, 0, 0);
         x.guard(2, 0, INSTEAD);
-        ops(x, BY, 2, 0);
+        Scenes.ops(x, BY, 2, 0);
         x.body(2, 0, 0, 0);
-        ops(x, PLUS, 6, 0);
+        Scenes.ops(x, PLUS, 6, 0);
         duePlay("BY one that is not chosen", x, 0, 0, 6);
     }
 
     private static void opCue() {
-        PuppetCast x = chain(1);
+        PuppetCast x = Scenes.chain(1);
         x.character(0);
         x.own(0, 0, 0, 0);
-        ops(x, CUE, 1, 4, PLUS, 1, 0, MARK, 2, 0);
+        Scenes.ops(x, CUE, 1, 4, PLUS, 1, 0, MARK, 2, 0);
         dueFailure("CUE of nothing", x, 0, 5, GONE);
         x.own(1, 4, 0, 0);
-        ops(x, MARK, 1, 0, PUT, 2, 0, PLUS, 10, 0);
+        Scenes.ops(x, MARK, 1, 0, PUT, 2, 0, PLUS, 10, 0);
         duePlay("CUE", x, 0, 5, 16);
         due("CUE who", x.mark(0, 0), 1);
         due("CUE act", x.mark(0, 2), 4);
@@ -255,7 +238,7 @@ public final class PlayTest {
         due("CUE mood of its own", x.mood(0, 2), 0);
         due("CUE opens", x.told(3), 2);
         x.own(0, 0, 0, 0);
-        ops(x, CUE, 2, 4);
+        Scenes.ops(x, CUE, 2, 4);
         dueFailure("CUE of a character that there is not", x, 0, 5, GONE);
         due("CUE of a character that there is not opens", x.told(3), 2);
         x.character(0);
@@ -263,89 +246,89 @@ public final class PlayTest {
         x.takes(1, 0);
         x.need(0, 4, 3);
         x.own(0, 0, 0, 0);
-        ops(x, CUE, 1, 4);
+        Scenes.ops(x, CUE, 1, 4);
         dueFailure("CUE of what clashes", x, 0, 5, CLASH);
     }
 
     private static void reaches() {
         for (int reach = 0; reach < 3; reach++) {
             for (int troupe = 0; troupe < 2; troupe++) {
-                PuppetCast x = chain(1);
+                PuppetCast x = Scenes.chain(1);
                 x.character(troupe);
                 x.own(0, 0, 0, 0);
-                ops(x, CUE, 1, 1);
+                Scenes.ops(x, CUE, 1, 1);
                 x.own(1, 1, reach, 0);
-                ops(x, ACT, 2, 0);
+                Scenes.ops(x, ACT, 2, 0);
                 x.own(1, 2, 2, 0);
-                ops(x, PLUS, 7, 0);
+                Scenes.ops(x, PLUS, 7, 0);
                 boolean failed = reach == 2 || reach == 1 && troupe != 0;
                 due("reach " + reach + " of troupe " + troupe, x.play(0, 0, 0), failed ? REACH : 0);
                 due("reach " + reach + ", value", x.told(0), failed ? 0 : 7);
                 due("reach " + reach + ", open", x.told(3), failed ? 2 : 3);
                 due("reach " + reach + ", ops", x.told(2), failed ? 1 : 3);
             }
-            PuppetCast y = chain(1);
+            PuppetCast y = Scenes.chain(1);
             y.own(0, 0, 0, 0);
-            ops(y, CUE, 0, 1);
+            Scenes.ops(y, CUE, 0, 1);
             y.own(0, 1, reach, 0);
             duePlay("reach " + reach + " of itself", y, 0, 3, 3);
         }
-        PuppetCast x = chain(2);
+        PuppetCast x = Scenes.chain(2);
         x.character(1);
         x.takes(1, 1);
         x.body(1, 1, 2, 0);
         x.body(0, 1, 0, 1);
         x.own(0, 0, 0, 0);
-        ops(x, CUE, 1, 1);
+        Scenes.ops(x, CUE, 1, 1);
         dueFailure("a clash comes before reach", x, 0, 0, CLASH);
         x.guard(1, 1, BEFORE);
-        ops(x, MARK, 1, 0);
+        Scenes.ops(x, MARK, 1, 0);
         x.body(1, 1, 2, 1);
         dueFailure("reach comes before guards", x, 0, 0, REACH);
         due("no guard was done", x.marks(), 0);
     }
 
     private static void opThrowAndTry() {
-        PuppetCast x = chain(1);
+        PuppetCast x = Scenes.chain(1);
         x.body(0, 0, 0, 0);
-        ops(x, MARK, 1, 0, THROW, -8, 0, MARK, 2, 0);
+        Scenes.ops(x, MARK, 1, 0, THROW, -8, 0, MARK, 2, 0);
         dueFailure("THROW", x, 0, 5, THROWN);
         due("THROW by", x.told(1), -8);
         due("THROW, ops", x.told(2), 2);
         dueMarks("THROW", x, 1, 5);
         x.body(0, 1, 0, 0);
-        ops(x, PLUS, 1, 0, TRY, 0, 0, MARK, 3, 0, PLUS, 1, 0);
+        Scenes.ops(x, PLUS, 1, 0, TRY, 0, 0, MARK, 3, 0, PLUS, 1, 0);
         duePlay("TRY of what is thrown", x, 1, 5, -7);
         due("TRY, by no number", x.told(1), 0);
         dueMarks("TRY, what was done stays", x, 1, 6, 3, -8);
         due("TRY opens", x.told(3), 2);
         x.body(0, 0, 0, 0);
-        ops(x, PLUS, 3, 0);
+        Scenes.ops(x, PLUS, 3, 0);
         duePlay("TRY as ACT", x, 1, 5, 10);
         x.body(0, 2, 0, 0);
-        ops(x, TRY, 3, 0, ACT, 4, 0);
+        Scenes.ops(x, TRY, 3, 0, ACT, 4, 0);
         x.body(0, 3, 0, 0);
-        ops(x, THROW, 6, 0);
+        Scenes.ops(x, THROW, 6, 0);
         dueFailure("a caught number is not told", x, 2, 0, GONE);
         due("a caught number is not told: told(1)", x.told(1), 0);
         x.body(0, 4, 0, 0);
-        ops(x, THROW, Integer.MIN_VALUE, 0);
+        Scenes.ops(x, THROW, Integer.MIN_VALUE, 0);
         dueFailure("the latest number", x, 2, 0, THROWN);
         due("the latest number: told(1)", x.told(1), Integer.MIN_VALUE);
     }
 
     private static void opTryOfAll() {
-        PuppetCast x = chain(2);
+        PuppetCast x = Scenes.chain(2);
         x.character(1);
         x.own(1, 0, 2, 0);
         x.body(1, 0, 0, 0);
-        ops(x, TRY, 5, 0);
+        Scenes.ops(x, TRY, 5, 0);
         x.body(1, 5, 0, 0);
-        ops(x, PUT, 1, 0, CUE, 1, 0);
+        Scenes.ops(x, PUT, 1, 0, CUE, 1, 0);
         duePlay("TRY of REACH", x, 0, 4, -13);
         due("TRY of REACH, what was done stays", x.mood(0, 1), 4);
         x.body(1, 5, 0, 0);
-        ops(x, ABOVE, 0, 0);
+        Scenes.ops(x, ABOVE, 0, 0);
         duePlay("TRY of what fails by 4", x, 0, 4, -14);
         x.need(1, 5, 0);
         duePlay("TRY of MISSING", x, 0, 4, -14);
@@ -354,35 +337,35 @@ public final class PlayTest {
         duePlay("TRY of a clash", x, 0, 4, -15);
         due("TRY of a clash opens", x.told(3), 2);
         x.body(1, 6, 0, 0);
-        ops(x, TRY, 6, 0);
+        Scenes.ops(x, TRY, 6, 0);
         dueFailure("TRY of DEEP", x, 6, 4, DEEP);
         x.body(1, 7, 0, 0);
-        ops(x, TRY, 8, 0);
+        Scenes.ops(x, TRY, 8, 0);
         x.body(1, 8, 0, 0);
-        ops(x, TRY, 9, 0, TRY, 9, 0, TRY, 9, 0, TRY, 9, 0, TRY, 9, 0, TRY, 9, 0, TRY, 9, 0, TRY, 9, 0);
+        Scenes.ops(x, TRY, 9, 0, TRY, 9, 0, TRY, 9, 0, TRY, 9, 0, TRY, 9, 0, TRY, 9, 0, TRY, 9, 0, TRY, 9, 0);
         x.body(1, 9, 0, 0);
-        ops(x, TRY, 10, 0, TRY, 10, 0, TRY, 10, 0, TRY, 10, 0, TRY, 10, 0, TRY, 10, 0, TRY, 10, 0, TRY, 10, 0);
+        Scenes.ops(x, TRY, 10, 0, TRY, 10, 0, TRY, 10, 0, TRY, 10, 0, TRY, 10, 0, TRY, 10, 0, TRY, 10, 0, TRY, 10, 0);
         x.body(1, 10, 0, 0);
-        ops(x, PLUS, 1, 0, PLUS, 1, 0, PLUS, 1, 0, PLUS, 1, 0, PLUS, 1, 0, PLUS, 1, 0, PLUS, 1, 0, PLUS, 1, 0);
+        Scenes.ops(x, PLUS, 1, 0, PLUS, 1, 0, PLUS, 1, 0, PLUS, 1, 0, PLUS, 1, 0, PLUS, 1, 0, PLUS, 1, 0, PLUS, 1, 0);
         duePlay("1 + 8 + 64 + 512 ops", x, 7, 4, 516);
         x.guard(1, 10, AFTER);
-        ops(x, PLUS, 1, 0);
+        Scenes.ops(x, PLUS, 1, 0);
         dueFailure("TRY of LONG", x, 7, 4, LONG);
     }
 
     /** Trait 3 is outermost, trait 0 innermost. */
     private static void guardsInOrder() {
-        PuppetCast x = chain(4);
+        PuppetCast x = Scenes.chain(4);
         x.guard(3, 0, AFTER);
-        ops(x, MARK, 3, 0, PLUS, 1, 0);
+        Scenes.ops(x, MARK, 3, 0, PLUS, 1, 0);
         x.guard(2, 0, BEFORE);
-        ops(x, MARK, 2, 0, PLUS, 10, 0);
+        Scenes.ops(x, MARK, 2, 0, PLUS, 10, 0);
         x.guard(1, 0, AFTER);
-        ops(x, MARK, 1, 0, PLUS, 100, 0);
+        Scenes.ops(x, MARK, 1, 0, PLUS, 100, 0);
         x.guard(0, 0, BEFORE);
-        ops(x, MARK, 0, 0, PLUS, 1000, 0);
+        Scenes.ops(x, MARK, 0, 0, PLUS, 1000, 0);
         x.own(0, 0, 0, 0);
-        ops(x, MARK, 9, 0, PLUS, 10000, 0);
+        Scenes.ops(x, MARK, 9, 0, PLUS, 10000, 0);
         duePlay("guards", x, 0, 5, 11116);
         dueMarks("guards", x, 2, 5, 0, 15, 9, 1015, 1, 11015, 3, 11115);
         due("guards, giver", x.mark(0, 1), 2);
@@ -391,30 +374,30 @@ public final class PlayTest {
     }
 
     private static void guardsInstead() {
-        PuppetCast x = chain(5);
+        PuppetCast x = Scenes.chain(5);
         x.guard(4, 0, AFTER);
-        ops(x, MARK, 4, 0);
+        Scenes.ops(x, MARK, 4, 0);
         x.guard(3, 0, BEFORE);
-        ops(x, MARK, 3, 0);
+        Scenes.ops(x, MARK, 3, 0);
         x.guard(2, 0, INSTEAD);
-        ops(x, MARK, 2, 0, PLUS, 1, 0);
+        Scenes.ops(x, MARK, 2, 0, PLUS, 1, 0);
         x.guard(1, 0, BEFORE);
-        ops(x, MARK, 1, 0);
+        Scenes.ops(x, MARK, 1, 0);
         x.guard(0, 0, AFTER);
-        ops(x, MARK, 0, 0);
+        Scenes.ops(x, MARK, 0, 0);
         x.body(0, 0, 0, 0);
-        ops(x, MARK, 9, 0, PLUS, 10, 0);
+        Scenes.ops(x, MARK, 9, 0, PLUS, 10, 0);
         duePlay("INSTEAD alone", x, 0, 5, 6);
         dueMarks("INSTEAD alone", x, 3, 5, 2, 5, 4, 6);
         x.guard(2, 0, INSTEAD);
-        ops(x, PLUS, 1, 0, WITHIN, 0, 0, MARK, 2, 0);
+        Scenes.ops(x, PLUS, 1, 0, WITHIN, 0, 0, MARK, 2, 0);
         duePlay("WITHIN", x, 0, 5, 16);
         dueMarks("WITHIN", x, 3, 5, 1, 6, 9, 6, 0, 16, 2, 16, 4, 16);
         due("WITHIN opens", x.told(3), 2);
         x.guard(3, 0, BEFORE);
-        ops(x, WITHIN, 0, 0);
+        Scenes.ops(x, WITHIN, 0, 0);
         x.guard(4, 0, AFTER);
-        ops(x, WITHIN, 0, 0);
+        Scenes.ops(x, WITHIN, 0, 0);
         duePlay("WITHIN in others", x, 0, 5, 16);
         dueMarks("WITHIN in others is nothing", x, 1, 6, 9, 6, 0, 16, 2, 16);
         due("WITHIN in others opens none", x.told(3), 2);
@@ -424,66 +407,66 @@ public final class PlayTest {
     }
 
     private static void withinTwice() {
-        PuppetCast x = chain(3);
+        PuppetCast x = Scenes.chain(3);
         x.guard(2, 0, INSTEAD);
-        ops(x, WITHIN, 0, 0, WITHIN, 0, 0, PLUS, 1000, 0);
+        Scenes.ops(x, WITHIN, 0, 0, WITHIN, 0, 0, PLUS, 1000, 0);
         x.guard(1, 0, INSTEAD);
-        ops(x, PLUS, 1, 0, WITHIN, 0, 0, WITHIN, 0, 0);
+        Scenes.ops(x, PLUS, 1, 0, WITHIN, 0, 0, WITHIN, 0, 0);
         x.body(0, 0, 0, 0);
-        ops(x, PLUS, 10, 0, WITHIN, 0, 0);
+        Scenes.ops(x, PLUS, 10, 0, WITHIN, 0, 0);
         duePlay("WITHIN in WITHIN, twice", x, 0, 0, 1042);
         due("WITHIN in WITHIN opens", x.told(3), 3);
         x.body(0, 0, 0, 0);
-        ops(x, THROW, 3, 0);
+        Scenes.ops(x, THROW, 3, 0);
         dueFailure("WITHIN fails", x, 0, 0, THROWN);
         due("WITHIN fails, ops", x.told(2), 4);
     }
 
     private static void guardsOfRenamed() {
-        PuppetCast x = chain(1);
+        PuppetCast x = Scenes.chain(1);
         x.body(0, 0, 0, 0);
         x.guard(0, 0, BEFORE);
-        ops(x, PLUS, 1, 0);
+        Scenes.ops(x, PLUS, 1, 0);
         x.guard(0, 1, BEFORE);
-        ops(x, PLUS, 10, 0);
+        Scenes.ops(x, PLUS, 10, 0);
         x.rename(0, 0, 0, 1);
         duePlay("guards of the name that is called", x, 1, 0, 10);
     }
 
     private static void failuresOfGuards() {
-        PuppetCast x = chain(3);
+        PuppetCast x = Scenes.chain(3);
         x.guard(2, 0, AFTER);
-        ops(x, MARK, 2, 0);
+        Scenes.ops(x, MARK, 2, 0);
         x.guard(1, 0, BEFORE);
-        ops(x, MARK, 1, 0, THROW, 4, 0);
+        Scenes.ops(x, MARK, 1, 0, THROW, 4, 0);
         x.guard(0, 0, BEFORE);
-        ops(x, MARK, 0, 0);
+        Scenes.ops(x, MARK, 0, 0);
         x.body(0, 0, 0, 0);
-        ops(x, MARK, 9, 0);
+        Scenes.ops(x, MARK, 9, 0);
         dueFailure("a guard throws", x, 0, 5, THROWN);
         dueMarks("a guard throws, nothing else is done", x, 1, 5);
         x.guard(1, 0, AFTER);
-        ops(x, MARK, 1, 0);
+        Scenes.ops(x, MARK, 1, 0);
         x.body(0, 0, 0, 0);
-        ops(x, THROW, 4, 0);
+        Scenes.ops(x, THROW, 4, 0);
         dueFailure("a body throws", x, 0, 5, THROWN);
         dueMarks("a body throws, no AFTER is done", x, 0, 5);
     }
 
     private static void deep() {
-        PuppetCast x = chain(1);
+        PuppetCast x = Scenes.chain(1);
         x.body(0, 0, 0, 0);
-        ops(x, PLUS, -1, 0, IF, 0, 0, ACT, 0, 0);
+        Scenes.ops(x, PLUS, -1, 0, IF, 0, 0, ACT, 0, 0);
         duePlay("forty open", x, 0, 40, 0);
         due("forty open", x.told(3), 40);
         dueFailure("one more", x, 0, 41, DEEP);
         due("one more: told(3)", x.told(3), 40);
         due("one more: ops", x.told(2), 120);
         x.body(0, 1, 0, 0);
-        ops(x, PLUS, -1, 0, IF, 0, 0, ACT, 1, 0, IF, 0, 0, THROW, 1, 0);
+        Scenes.ops(x, PLUS, -1, 0, IF, 0, 0, ACT, 1, 0, IF, 0, 0, THROW, 1, 0);
         duePlay("what was closed is not open", x, 1, 40, 0);
         x.body(0, 2, 0, 0);
-        ops(x, ACT, 0, 0, PLUS, 39, 0, ACT, 0, 0);
+        Scenes.ops(x, ACT, 0, 0, PLUS, 39, 0, ACT, 0, 0);
         duePlay("one after the other", x, 2, 39, 0);
         due("one after the other: told(3)", x.told(3), 40);
     }
@@ -492,36 +475,36 @@ public final class PlayTest {
     private static void deepByEach() {
         int[][] last = {{ACT, 11, 0}, {ABOVE, 0, 0}, {BY, 19, 0}, {CUE, 11, 0}, {TRY, 11, 0}};
         for (int[] op : last) {
-            PuppetCast x = chain(1);
+            PuppetCast x = Scenes.chain(1);
             x.body(0, 0, 0, 0);
-            ops(x, PLUS, -1, 0, IF, 0, 0, ACT, 0, 0);
-            ops(x, op);
+            Scenes.ops(x, PLUS, -1, 0, IF, 0, 0, ACT, 0, 0);
+            Scenes.ops(x, op);
             dueFailure("kind " + op[0] + " at forty", x, 0, 40, DEEP);
             due("kind " + op[0] + " at forty: ops", x.told(2), 120);
             due("kind " + op[0] + " at 39", x.play(0, 0, 39), op[0] == TRY ? 0 : GONE);
             due("kind " + op[0] + " at 39: open", x.told(3), 40);
         }
-        PuppetCast x = chain(1);
+        PuppetCast x = Scenes.chain(1);
         x.body(0, 0, 0, 0);
-        ops(x, MARK, 6, 0);
+        Scenes.ops(x, MARK, 6, 0);
         x.guard(0, 0, INSTEAD);
-        ops(x, PLUS, -1, 0, IF, 0, 0, ACT, 0, 0, WITHIN, 0, 0);
+        Scenes.ops(x, PLUS, -1, 0, IF, 0, 0, ACT, 0, 0, WITHIN, 0, 0);
         dueFailure("WITHIN at forty", x, 0, 40, DEEP);
         due("WITHIN at forty: nothing within", x.marks(), 0);
         duePlay("WITHIN at 39", x, 0, 39, 0);
         due("WITHIN at 39: marks", x.marks(), 39);
         x.guard(0, 0, BEFORE);
-        ops(x, PLUS, -1, 0, IF, 0, 0, ACT, 0, 0, WITHIN, 0, 0);
+        Scenes.ops(x, PLUS, -1, 0, IF, 0, 0, ACT, 0, 0, WITHIN, 0, 0);
         duePlay("WITHIN in BEFORE at forty", x, 0, 40, 0);
         due("WITHIN in BEFORE at forty: open", x.told(3), 40);
     }
 
     private static void longPlays() {
-        PuppetCast x = chain(1);
+        PuppetCast x = Scenes.chain(1);
         x.body(0, 0, 0, 0);
-        ops(x, ACT, 1, 0, ACT, 1, 0, ACT, 1, 0, ACT, 1, 0, ACT, 1, 0, ACT, 1, 0, ACT, 1, 0, ACT, 1, 0);
+        Scenes.ops(x, ACT, 1, 0, ACT, 1, 0, ACT, 1, 0, ACT, 1, 0, ACT, 1, 0, ACT, 1, 0, ACT, 1, 0, ACT, 1, 0);
         x.body(0, 1, 0, 0);
-        ops(x, ACT, 2, 0, ACT, 2, 0, ACT, 2, 0, ACT, 2, 0, ACT, 2, 0, ACT, 2, 0, ACT, 2, 0, ACT, 2, 0);
+        Scenes.ops(x, ACT, 2, 0, ACT, 2, 0, ACT, 2, 0, ACT, 2, 0, ACT, 2, 0, ACT, 2, 0, ACT, 2, 0, ACT, 2, 0);
         x.body(0, 2, 0, 0);
         for (int n = 1; n <= 8; n++) {
             x.op(PLUS, 1, 0);
@@ -532,7 +515,7 @@ public final class PlayTest {
         due("8 + 64 + 512 = 584 ops", x.told(2), 584);
         due("584 ops, value", x.told(0), 512);
         x.body(0, 3, 0, 0);
-        ops(x, ACT, 0, 0, MARK, 1, 0, MARK, 1, 0, MARK, 1, 0, MARK, 1, 0, MARK, 1, 0, MARK, 1, 0, ACT, 4, 0);
+        Scenes.ops(x, ACT, 0, 0, MARK, 1, 0, MARK, 1, 0, MARK, 1, 0, MARK, 1, 0, MARK, 1, 0, MARK, 1, 0, ACT, 4, 0);
         x.body(0, 4, 0, 0);
         for (int n = 1; n <= 8; n++) {
             x.op(PLUS, 1, 0);
@@ -548,29 +531,29 @@ public final class PlayTest {
         due("601 ops: told(1)", x.told(1), 0);
         due("601 ops: what was done stays", x.marks(), 6);
         x.guard(0, 3, AFTER);
-        ops(x, THROW, 3, 0);
+        Scenes.ops(x, THROW, 3, 0);
         dueFailure("601st would throw", x, 3, 0, LONG);
         x.guard(0, 3, AFTER);
-        ops(x, ACT, 11, 0);
+        Scenes.ops(x, ACT, 11, 0);
         dueFailure("601st would fail by 4", x, 3, 0, LONG);
         due("601st would fail by 4: it opens none", x.told(3), 4);
         x.guard(0, 4, BEFORE);
-        ops(x, THROW, 9, 0);
+        Scenes.ops(x, THROW, 9, 0);
         dueFailure("a throw before that", x, 3, 0, THROWN);
         x.body(0, 4, 0, 0);
-        ops(x, PLUS, 1, 0, PLUS, 1, 0, PLUS, 1, 0, PLUS, 1, 0, PLUS, 1, 0, PLUS, -600, 0, IF, 0, 0, PLUS, 1, 0);
+        Scenes.ops(x, PLUS, 1, 0, PLUS, 1, 0, PLUS, 1, 0, PLUS, 1, 0, PLUS, 1, 0, PLUS, -600, 0, IF, 0, 0, PLUS, 1, 0);
         x.guard(0, 4, BEFORE);
         x.guard(0, 3, AFTER);
-        ops(x, MARK, 5, 0);
+        Scenes.ops(x, MARK, 5, 0);
         duePlay("one passed over leaves room for another", x, 3, 0, -83);
         due("one passed over leaves room for another: told(2)", x.told(2), 600);
     }
 
     /** The 601st op, with forty open, would open one more. */
     private static void longBeforeDeep() {
-        PuppetCast x = chain(1);
+        PuppetCast x = Scenes.chain(1);
         x.body(0, 0, 0, 0);
-        ops(x, ACT, 0, 0);
+        Scenes.ops(x, ACT, 0, 0);
         x.guard(0, 0, BEFORE);
         for (int n = 1; n <= 8; n++) {
             x.op(PLUS, 0, 0);
@@ -578,11 +561,11 @@ public final class PlayTest {
         dueFailure("9 ops at each height", x, 0, 0, DEEP);
         due("9 ops at each height: told(2)", x.told(2), 360);
         x.body(0, 0, 0, 0);
-        ops(x, PLUS, 0, 0, PLUS, 0, 0, PLUS, 0, 0, PLUS, 0, 0, PLUS, 0, 0, PLUS, 0, 0, ACT, 0, 0);
+        Scenes.ops(x, PLUS, 0, 0, PLUS, 0, 0, PLUS, 0, 0, PLUS, 0, 0, PLUS, 0, 0, PLUS, 0, 0, ACT, 0, 0);
         dueFailure("the 600th is too deep", x, 0, 0, DEEP);
         due("the 600th is too deep: told(2)", x.told(2), 600);
         x.body(0, 1, 0, 0);
-        ops(x, PLUS, 0, 0, PLUS, 0, 0, PLUS, 0, 0, PLUS, 0, 0, PLUS, 0, 0, PLUS, 0, 0, PLUS, 0, 0, ACT, 0, 0);
+        Scenes.ops(x, PLUS, 0, 0, PLUS, 0, 0, PLUS, 0, 0, PLUS, 0, 0, PLUS, 0, 0, PLUS, 0, 0, PLUS, 0, 0, ACT, 0, 0);
         x.guard(0, 1, BEFORE);
         for (int n = 1; n <= 8; n++) {
             x.op(PLUS, 0, 0);
@@ -593,14 +576,14 @@ public final class PlayTest {
     }
 
     private static void promise22() {
-        PuppetCast x = chain(1);
+        PuppetCast x = Scenes.chain(1);
         for (int what = -1; what < 6; what++) {
             due("22 before any", x.told(what), 0);
         }
         x.body(0, 0, 0, 0);
-        ops(x, ACT, 1, 0);
+        Scenes.ops(x, ACT, 1, 0);
         x.body(0, 1, 0, 0);
-        ops(x, PLUS, 1, 0);
+        Scenes.ops(x, PLUS, 1, 0);
         x.play(0, 0, 6);
         due("22 value", x.told(0), 7);
         due("22 not thrown", x.told(1), 0);
@@ -621,13 +604,13 @@ public final class PlayTest {
     }
 
     private static void promise23And24() {
-        PuppetCast x = chain(1);
+        PuppetCast x = Scenes.chain(1);
         x.character(3);
         x.takes(1, 0);
         due("23 before any", x.marks(), 0);
         due("24 before any", x.mark(0, 0), 0);
         x.body(0, 7, 0, 0);
-        ops(x, MARK, -5, 0, PLUS, 1, 0, MARK, Integer.MAX_VALUE, 0);
+        Scenes.ops(x, MARK, -5, 0, PLUS, 1, 0, MARK, Integer.MAX_VALUE, 0);
         x.play(1, 7, Long.MIN_VALUE);
         due("23 marks", x.marks(), 2);
         long[] want = {1, 0, 7, -5, Long.MIN_VALUE, 1, 0, 7, Integer.MAX_VALUE, Long.MIN_VALUE + 1};
@@ -646,9 +629,9 @@ public final class PlayTest {
         due("23 a play that fails empties it", x.marks(), 0);
         due("24 nothing is left", x.mark(0, 2), 0);
         x.body(0, 0, 0, 0);
-        ops(x, ACT, 1, 0, ACT, 1, 0, ACT, 1, 0, ACT, 2, 0, PLUS, 1, 0);
+        Scenes.ops(x, ACT, 1, 0, ACT, 1, 0, ACT, 1, 0, ACT, 2, 0, PLUS, 1, 0);
         x.body(0, 1, 0, 0);
-        ops(x, ACT, 2, 0, ACT, 2, 0, ACT, 2, 0, ACT, 2, 0, ACT, 2, 0, ACT, 2, 0, ACT, 2, 0, ACT, 2, 0);
+        Scenes.ops(x, ACT, 2, 0, ACT, 2, 0, ACT, 2, 0, ACT, 2, 0, ACT, 2, 0, ACT, 2, 0, ACT, 2, 0, ACT, 2, 0);
         x.body(0, 2, 0, 0);
         for (int n = 1; n <= 8; n++) {
             x.op(MARK, n, 0);
@@ -660,14 +643,14 @@ public final class PlayTest {
         due("24 the last", x.mark(199, 3), 8);
         due("24 none behind", x.mark(200, 3), 0);
         x.body(0, 0, 0, 0);
-        ops(x, ACT, 1, 0, ACT, 1, 0, ACT, 1, 0, ACT, 2, 0, ACT, 2, 0);
+        Scenes.ops(x, ACT, 1, 0, ACT, 1, 0, ACT, 1, 0, ACT, 2, 0, ACT, 2, 0);
         x.play(0, 0, 3);
         due("23 still two hundred", x.marks(), 200);
         due("24 the last again", x.mark(199, 3), 8);
     }
 
     private static void promise25And26() {
-        PuppetCast x = chain(1);
+        PuppetCast x = Scenes.chain(1);
         x.character(0);
         for (int k = 0; k < 4; k++) {
             due("25 at first", x.mood(0, k), 0);

@@ -26,14 +26,6 @@ public final class StructureTest {
         checks.due(call, got, want);
     }
 
-    private static PuppetCast withTraits(int n) {
-        PuppetCast x = new PuppetCast();
-        for (int t = 0; t < n; t++) {
-            x.trait(NONE, NONE, NONE);
-        }
-        return x;
-    }
-
     private static void promise1() {
         due("NONE", PuppetCast.NONE, -1);
         due("BAD", PuppetCast.BAD, -2);
@@ -106,7 +98,7 @@ public final class StructureTest {
     }
 
     private static void promise4() {
-        PuppetCast x = withTraits(7);
+        PuppetCast x = Scenes.loose(7);
         x.trait(0, NONE, NONE);
         due("4 no character", x.takes(0, 0), BAD);
         x.character(0);
@@ -137,7 +129,7 @@ public final class StructureTest {
     }
 
     private static void promise5() {
-        PuppetCast x = withTraits(2);
+        PuppetCast x = Scenes.loose(2);
         x.character(0);
         x.takes(0, 0);
         due("5 trait 2", x.body(2, 0, 0, 0), BAD);
@@ -168,7 +160,7 @@ public final class StructureTest {
     }
 
     private static void promise6() {
-        PuppetCast x = withTraits(1);
+        PuppetCast x = Scenes.loose(1);
         x.character(0);
         x.takes(0, 0);
         due("6 trait 1", x.need(1, 0, 0), BAD);
@@ -190,7 +182,7 @@ public final class StructureTest {
     }
 
     private static void promise7() {
-        PuppetCast x = withTraits(1);
+        PuppetCast x = Scenes.loose(1);
         x.character(0);
         x.takes(0, 0);
         due("7 trait 1", x.guard(1, 0, 0), BAD);
@@ -218,7 +210,7 @@ public final class StructureTest {
     }
 
     private static void promise8() {
-        PuppetCast x = withTraits(1);
+        PuppetCast x = Scenes.loose(1);
         x.character(0);
         due("8 character 1", x.own(1, 0, 0, 0), BAD);
         due("8 character -1", x.own(-1, 0, 0, 0), BAD);
@@ -243,7 +235,7 @@ public final class StructureTest {
     }
 
     private static void promise9() {
-        PuppetCast x = withTraits(1);
+        PuppetCast x = Scenes.loose(1);
         x.character(0);
         x.takes(0, 0);
         due("9 nothing was made", x.op(0, 0, 0), NO);
@@ -274,7 +266,7 @@ public final class StructureTest {
     }
 
     private static void promise9Refusals() {
-        PuppetCast x = withTraits(1);
+        PuppetCast x = Scenes.loose(1);
         x.body(0, 0, 0, 0);
         due("9 kind -1", x.op(-1, 0, 0), BAD);
         due("9 kind 13", x.op(13, 0, 0), BAD);
@@ -308,7 +300,7 @@ public final class StructureTest {
     }
 
     private static void promise10() {
-        PuppetCast x = withTraits(3);
+        PuppetCast x = Scenes.loose(3);
         x.character(0);
         x.character(0);
         x.takes(0, 0);
@@ -341,7 +333,7 @@ public final class StructureTest {
     }
 
     private static void promise11() {
-        PuppetCast x = withTraits(3);
+        PuppetCast x = Scenes.loose(3);
         x.character(0);
         x.character(0);
         due("11 character 2", x.rename(2, 0, 0, 1), BAD);
@@ -371,7 +363,7 @@ public final class StructureTest {
     }
 
     private static void promise11Offers() {
-        PuppetCast x = withTraits(1);
+        PuppetCast x = Scenes.loose(1);
         x.character(0);
         x.takes(0, 0);
         x.body(0, 0, 0, 1);
@@ -382,7 +374,7 @@ public final class StructureTest {
         x.leave(0, 0, 0);
         x.leave(0, 0, 1);
         due("11 leaving out does not undo renaming", x.about(0, 1, 0), 1);
-        PuppetCast y = withTraits(1);
+        PuppetCast y = Scenes.loose(1);
         y.character(0);
         y.takes(0, 0);
         y.body(0, 1, 0, 2);
@@ -391,7 +383,7 @@ public final class StructureTest {
     }
 
     private static void promise12() {
-        PuppetCast x = withTraits(3);
+        PuppetCast x = Scenes.loose(3);
         x.character(0);
         x.takes(0, 0);
         x.takes(0, 1);
