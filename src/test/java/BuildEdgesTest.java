@@ -35,9 +35,11 @@ public final class BuildEdgesTest {
         opOfTheLatest();
         opsUpToEight();
         leaveNumbers();
+        leaveFirstAndLast();
         leaveUpToEight();
         renameNumbers();
         renameTwice();
+        renameFirstAndLast();
         renameUpToEight();
         preferNumbers();
         preferTellsTheOneBefore();
@@ -507,6 +509,18 @@ public final class BuildEdgesTest {
         due("10 from now on", x.chosen(0, 11), -6);
     }
 
+    private static void leaveFirstAndLast() {
+        PuppetCast x = Scenes.loose(20);
+        for (int c = 0; c < 12; c++) {
+            x.character(0);
+        }
+        for (int i = 0; i < 8; i++) {
+            int character = i / 4 * 11, trait = i / 2 % 2 * 19, act = i % 2 * 11;
+            due("10 trait " + trait + ", act " + act, x.leave(character, trait, act), 1);
+            due("10 trait " + trait + ", act " + act + ", it did", x.leave(character, trait, act), 0);
+        }
+    }
+
     private static void leaveUpToEight() {
         PuppetCast x = Scenes.loose(3);
         x.character(0);
@@ -550,6 +564,19 @@ public final class BuildEdgesTest {
         company.changes("11 on to the act", 1, x -> x.rename(1, 2, 0, 1));
         company.changes("11 back again", 1, x -> x.rename(1, 2, 3, 1));
         company.changes("11 what is left out", 1, x -> x.rename(0, 2, 1, 0));
+    }
+
+    private static void renameFirstAndLast() {
+        PuppetCast x = Scenes.loose(20);
+        for (int c = 0; c < 12; c++) {
+            x.character(0);
+        }
+        for (int i = 0; i < 8; i++) {
+            int character = i / 4 * 11, trait = i / 2 % 2 * 19, act = i % 2 * 11;
+            due("11 trait " + trait + ", act " + act, x.rename(character, trait, act, 11 - act), 1);
+            due("11 trait " + trait + ", act " + act + ", it does", x.rename(character, trait, act, 5), NO);
+            due("11 trait " + trait + ", another to that name", x.rename(character, trait, 5, 11 - act), NO);
+        }
     }
 
     private static void renameUpToEight() {

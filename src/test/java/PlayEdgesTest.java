@@ -26,6 +26,7 @@ public final class PlayEdgesTest {
         guardsOrder();
         guardsPassTheValue();
         withinInnermost();
+        withinNext();
         withinElsewhere();
         markTwoHundred();
         markGivers();
@@ -339,6 +340,27 @@ public final class PlayEdgesTest {
         due("21 WITHIN fails: ops", x.told(2), 2);
     }
 
+    /** Each INSTEAD goes on with the very next guard, of whatever sort. */
+    private static void withinNext() {
+        PuppetCast x = Scenes.chain(20);
+        x.body(0, 0, 0, 0);
+        for (int t = 0; t < 20; t++) {
+            x.guard(t, 0, INSTEAD);
+            Scenes.ops(x, MARK, t, 0, WITHIN, 0, 0, PLUS, 1, 0);
+        }
+        x.guard(10, 0, BEFORE);
+        Scenes.ops(x, MARK, 10, 0);
+        x.guard(5, 0, AFTER);
+        Scenes.ops(x, MARK, 5, 0);
+        duePlay("21 twenty guards, 18 of them INSTEAD", x, 0, 0, 18);
+        due("22 open", x.told(3), 19);
+        int[] want = {19, 18, 17, 16, 15, 14, 13, 12, 11, 10, 9, 8, 7, 6, 4, 3, 2, 1, 0, 5};
+        for (int i = 0; i < 20; i++) {
+            due("21 guard " + i, x.mark(i, 3), want[i]);
+        }
+        due("21 the value that comes to the AFTER", x.mark(19, 4), 5);
+    }
+
     private static void withinElsewhere() {
         for (int sort = BEFORE; sort <= AFTER; sort += 2) {
             PuppetCast x = Scenes.chain(1);
@@ -616,6 +638,12 @@ public final class PlayEdgesTest {
         dueFailure("21 TRY of LONG", y, 0, 5, LONG);
         due("21 nothing behind it, too", y.mood(0, 0), 0);
         due("22 600 ops", y.told(2), 600);
+        y.own(0, 0, 0, 0);
+        Scenes.ops(y, TRY, 1, 0);
+        dueFailure("21 TRY of LONG, with nothing behind it", y, 0, 5, LONG);
+        x.own(0, 0, 0, 0);
+        Scenes.ops(x, TRY, 1, 0);
+        dueFailure("21 TRY of DEEP, with nothing behind it", x, 0, 5, DEEP);
     }
 
     // ---- IF
